@@ -1,0 +1,25 @@
+import java.nio.file.Path;
+
+/** Runs all tests of the project; ends with exit code 1 if one fails. The program's text is the one argument. */
+public final class AllTests {
+    private static final int PROMISES = 56;
+
+    private AllTests() {
+    }
+
+    public static void main(String[] arguments) throws Exception {
+        FaceTest.run();
+        InputTest.run();
+        CellsTest.run();
+        RootsTest.run();
+        CurvesTest.run();
+        ChangesTest.run();
+        Checks.requireAllPromises(PROMISES);
+        LanguageTest.run(Path.of(arguments[0]));
+        FuzzTest.run();
+        System.out.println("the project's tests: " + Checks.passed() + " answers are as due, " + Checks.failed() + " are not");
+        if (Checks.failed() > 0) {
+            System.exit(1);
+        }
+    }
+}
