@@ -1341,7 +1341,6 @@ public final class CurveMeetings {
 
         void begin(Figure figure, int curve, int line) {
             degree = figure.top(curve);
-            roots = 0;
             for (int k = 0; k <= degree; k++) {
                 replace(k, figure.cutNumber(curve, line, k));
             }

@@ -62,6 +62,9 @@ final class CellsTest {
         Checks.due(14, "cellControl(1, 6, 63, 3, 0) after a move", 2621440, () -> x.cellControl(1, 6, 63, 3, 0));
         x.undo();
         Checks.due(14, "cellControl(1, 6, 63, 3, 0) after undo", 5242880, () -> x.cellControl(1, 6, 63, 3, 0));
+        Checks.due(14, "cellControl(0, 1, 0, 1, 2)", 4, () -> x.cellControl(0, 1, 0, 1, 2));
+        x.setWeight(0, 0, 3);
+        Checks.due(14, "cellControl(0, 1, 0, 1, 2) after a weight at the origin", 8, () -> x.cellControl(0, 1, 0, 1, 2));
     }
 
     private static void places() {

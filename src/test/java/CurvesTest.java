@@ -11,6 +11,7 @@ final class CurvesTest {
         crossing();
         meetings();
         diagonal();
+        closeMeetings();
         boxesThatTouch();
         sameness();
         sharedEnds();
@@ -119,6 +120,24 @@ final class CurvesTest {
         Checks.due(43, "meetingNumber(0, 1, 1, 2)", 0, () -> y.meetingNumber(0, 1, 1, 2));
     }
 
+    /** Meetings that lie two cells apart, and so are not one. */
+    private static void closeMeetings() {
+        apart(3, "curve a 0 2 1 11 14 3 16 15 3; curve b 5 4 1 17 18 3 2 3 1; set depth 3;");
+        apart(4, "curve a 0 19 2 16 2 2 17 9 3 6 15 3; curve b 20 3 3 0 19 2 7 18 2 15 3 1; set depth 4;");
+        apart(2, "curve a 12 7 1 8 13 2 2 18 1; curve b 13 8 1 0 20 2 20 2 1; set depth 4;");
+        apart(3, "curve a 13 6 3 4 12 2 2 18 2 0 0 3; curve b 10 7 1 2 14 3 18 2 2 1 15 1; set depth 5;");
+    }
+
+    private static void apart(int meetings, String text) {
+        CurveMeetings x = Texts.of(text);
+        Checks.due(41, "meetingCount(0, 1) of " + text, meetings, () -> x.meetingCount(0, 1));
+        Checks.due(41, "meetingCount(1, 0) of " + text, meetings, () -> x.meetingCount(1, 0));
+        x.reverse(0);
+        Checks.due(41, "meetingCount(0, 1) of the reverse of " + text, meetings, () -> x.meetingCount(0, 1));
+        x.reverse(1);
+        Checks.due(41, "meetingCount(1, 0) of both reverses of " + text, meetings, () -> x.meetingCount(1, 0));
+    }
+
     private static void boxesThatTouch() {
         CurveMeetings x = Texts.of("curve a 0 0 1 10 10 1; curve b 10 10 1 20 20 1; curve c 0 10 1 10 20 1; curve d 11 0 1 20 9 1; set depth 1;");
         Checks.dueRow(39, "pairCount(0, k)", new long[] {4, 1, 1, 0, THROWS}, k -> x.pairCount(0, k));
@@ -136,6 +155,9 @@ final class CurvesTest {
         Checks.due(44, "sameness(6, 0)", 0, () -> x.sameness(6, 0));
         CurveMeetings y = Texts.of("curve a 0 0 1 5 6 2; curve b 5 6 1 0 0 2; curve c 5 6 2 0 0 1; curve d 0 0 2 5 6 1; curve e 0 0 1 5 7 2; curve f 0 0 1 4 6 2;");
         Checks.dueRow(44, "sameness(0, k)", new long[] {1, 0, 2, 0, 0, 0}, k -> y.sameness(0, k));
+        CurveMeetings z = Texts.of("curve a 0 0 1 5 6 1 7 8 1; curve b 1 0 1 5 6 1 7 8 1; curve c 0 1 1 5 6 1 7 8 1; curve d 0 0 1 5 6 1 8 8 1;"
+            + "curve e 7 8 1 5 6 1 1 0 1; curve f 7 9 1 5 6 1 0 0 1; curve g 0 0 2 5 6 1 7 8 1; curve h 0 0 1 5 6 1 7 8 3;");
+        Checks.dueRow(44, "sameness(0, k) but for an end", new long[] {1, 0, 0, 0, 0, 0, 0, 0}, k -> z.sameness(0, k));
     }
 
     private static void sharedEnds() {

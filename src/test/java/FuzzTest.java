@@ -9,6 +9,7 @@ import java.util.List;
 final class FuzzTest {
     private static final int RUNS = 700;
     private static final int CALLS = 400;
+    private static final int SWEEPS = 150;
     private static final int[] WILD = {-1, Integer.MIN_VALUE, Integer.MAX_VALUE, -100, 64, 4096, 1 << 30, 31, 32, 33};
 
     /** Heights above a line that make roots twice or three times, near them, on joints or outside. */
@@ -45,6 +46,73 @@ final class FuzzTest {
             log.setLength(0);
             oneRun();
             Checks.check("random run " + run + ":\n" + log, 0, wrong ? 1 : 0);
+        }
+        for (int sweep = 0; sweep < SWEEPS; sweep++) {
+            seed = 104729L * sweep + 3;
+            String text = text(1 + random(3));
+            sweepLines(text);
+            sweepCurves(text);
+        }
+    }
+
+    /** New objects for each two curves, so that none is used for more than 512 calls. */
+    private void begin(String text) throws ReflectiveOperationException {
+        program = new CurveMeetings();
+        model = new Model();
+        wrong = false;
+        log.setLength(0);
+        loadText(text);
+    }
+
+    private void end(String text) {
+        Checks.check("sweep of " + text + ":\n" + log, 0, wrong ? 1 : 0);
+    }
+
+    /** All that is asked of a curve and a line. */
+    private void sweepLines(String text) throws ReflectiveOperationException {
+        for (int curve = 0; curve < 8; curve++) {
+            begin(text);
+            for (int line = 0; line < 2; line++) {
+                for (String name : new String[] {"rootCount", "isTangent", "isOn"}) {
+                    call(name, curve, line);
+                }
+                for (int root = -1; root < 4; root++) {
+                    for (String name : new String[] {"coefficient", "sideOf", "rootsOf", "rootKind", "rootDepth", "rootCell"}) {
+                        call(name, curve, line, root);
+                    }
+                    for (int depth = -1; depth < 14; depth++) {
+                        call("refined", curve, line, root, depth);
+                        call("signChanges", curve, line, depth, random(1 << random(depth + 2)));
+                    }
+                }
+            }
+            end(text);
+        }
+    }
+
+    /** All that is asked of two curves. */
+    private void sweepCurves(String text) throws ReflectiveOperationException {
+        for (int curve = 0; curve < 4; curve++) {
+            int other = random(4);
+            begin(text);
+            for (String name : new String[] {"pairCount", "meetingCount", "firstLeft", "lastLeft", "sameness", "sharedEnds"}) {
+                call(name, curve, other);
+                call(name, other, curve);
+            }
+            for (int k = 0; k < 60; k++) {
+                call("pair", curve, other, k);
+                if (curve < model.curveCount() && other < model.curveCount()) {
+                    int pair = model.pair(curve, other, random(Math.max(1, model.pairCount(curve, other))));
+                    call("meetingOf", curve, other, pair / 100, pair % 100);
+                    call("meetingOf", curve, other, pair / 100 + random(3) - 1, pair % 100 + random(3) - 1);
+                }
+            }
+            for (int meeting = 0; meeting < 4; meeting++) {
+                for (int what = 0; what < 6; what++) {
+                    call("meetingNumber", curve, other, meeting, what);
+                }
+            }
+            end(text);
         }
     }
 
@@ -87,8 +155,15 @@ final class FuzzTest {
         int curves = 1 + random(8);
         int lines = 1 + random(6);
         int statement = 0;
+        int before = 0;
         for (int k = 0; k < curves; k++) {
+            int start = text.length();
             text.append("curve ").append(name(statement++));
+            if (k > 0 && random(6) == 0) {
+                text.append(again(text.substring(before, start)));
+                continue;
+            }
+            before = start;
             int[] shape = random(2) == 0 ? SHAPES[random(SHAPES.length)] : null;
             int points = shape == null ? 2 + random(3) : shape.length;
             int weights = random(2) == 0 ? 1 : random(3) + 1;
@@ -112,6 +187,21 @@ final class FuzzTest {
             text.append("set depth ").append(1 + random(random(6) + 1)).append(';');
         }
         return text.toString();
+    }
+
+    /** The control points of a statement once more, at times in opposite order or with greater weights. */
+    private String again(String statement) {
+        String[] words = statement.substring(0, statement.indexOf(';')).split(" ");
+        StringBuilder points = new StringBuilder();
+        boolean backwards = random(2) == 0;
+        int factor = 1 + random(2);
+        int count = (words.length - 2) / 3;
+        for (int k = 0; k < count; k++) {
+            int at = 2 + 3 * (backwards ? count - 1 - k : k);
+            int weight = Math.min(3, Integer.parseInt(words[at + 2]) * factor);
+            points.append(' ').append(words[at]).append(' ').append(words[at + 1]).append(' ').append(weight);
+        }
+        return points.append(";\n").toString();
     }
 
     private String name(int statement) {

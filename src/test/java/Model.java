@@ -956,7 +956,41 @@ public final class Model {
         return grid;
     }
 
+    /** The key of two curves' points and the depth, and the pairs and meetings found for it last. */
+    private String lastKey = "";
+    private List<Integer> lastPairs;
+    private List<TreeSet<Integer>> lastMeetings;
+
+    private void find(int curve, int other) {
+        StringBuilder key = new StringBuilder();
+        for (int[] point : curveAt(curve).points) {
+            key.append(Arrays.toString(point));
+        }
+        for (int[] point : curveAt(other).points) {
+            key.append(Arrays.toString(point)).append('/');
+        }
+        key.append(state.settings[1]);
+        if (!lastKey.equals(key.toString())) {
+            lastKey = key.toString();
+            lastPairs = findPairs(curve, other);
+            lastMeetings = null;
+        }
+    }
+
     private List<Integer> pairs(int curve, int other) {
+        find(curve, other);
+        return lastPairs;
+    }
+
+    private List<TreeSet<Integer>> meetings(int curve, int other) {
+        find(curve, other);
+        if (lastMeetings == null) {
+            lastMeetings = findMeetings(lastPairs);
+        }
+        return lastMeetings;
+    }
+
+    private List<Integer> findPairs(int curve, int other) {
         boolean[][] grid = grid(curve, other);
         List<Integer> pairs = new ArrayList<>();
         for (int k = 0; k < grid.length; k++) {
@@ -979,8 +1013,7 @@ public final class Model {
     }
 
     /** Each pair is with the first pair that it is joined to, over and over, until nothing changes. */
-    private List<TreeSet<Integer>> meetings(int curve, int other) {
-        List<Integer> pairs = pairs(curve, other);
+    private static List<TreeSet<Integer>> findMeetings(List<Integer> pairs) {
         Map<Integer, Integer> first = new HashMap<>();
         pairs.forEach(pair -> first.put(pair, pair));
         boolean changed = true;

@@ -155,6 +155,11 @@ final class RootsTest {
         tangent(false, "0 13 1 5 11 1 10 9 1 15 7 1");
         tangent(false, "0 10 1 5 14 1 10 5 1 15 13 1");
         tangent(false, "0 10 1 5 10 1 10 10 1 15 10 1");
+        tangent(false, "0 19 1 5 13 1 10 11 1");
+        tangent(false, "0 19 3 5 19 2 10 19 1 15 14 1");
+        tangent(true, "0 11 1 5 10 1 10 10 1 15 10 1");
+        CurveMeetings beyond = Texts.of("curve a 15 4 1 4 0 1 1 0 1 0 1 1; line m 4 1 0;");
+        Checks.due(31, "isTangent three times at 4/3", false, () -> beyond.isTangent(0, 0));
         CurveMeetings x = heights();
         Checks.due(31, "isTangent(8, 0)", THROWS, () -> x.isTangent(8, 0) ? 1 : 0);
         Checks.due(31, "isTangent(0, 2)", THROWS, () -> x.isTangent(0, 2) ? 1 : 0);
