@@ -10,10 +10,15 @@ public final class AllTests {
     public static void main(String[] arguments) throws Exception {
         FaceTest.run();
         InputTest.run();
+        TextBoundaries.run();
         CellsTest.run();
+        FigureBoundaries.run();
         RootsTest.run();
+        RootBoundaries.run();
         CurvesTest.run();
+        MeetingBoundaries.run();
         ChangesTest.run();
+        ChangeBoundaries.run();
         Checks.requireAllPromises(PROMISES);
         LanguageTest.run(Path.of(arguments[0]));
         FuzzTest.run();

@@ -1,3 +1,7 @@
+import java.util.List;
+import java.util.function.LongSupplier;
+import java.util.function.ToLongFunction;
+
 /** Promises 49 to 56: changes, and undoing them. */
 final class ChangesTest {
     private static final int[] WRONG = {-1, 4, Integer.MAX_VALUE, Integer.MIN_VALUE};
@@ -49,8 +53,14 @@ final class ChangesTest {
         return all.append(x.getSetting(0)).append(' ').append(x.getSetting(1)).append(' ').append(x.undoCount()).toString();
     }
 
+    /** A call on a new object that answers an error code, and changes nothing. */
+    private static void refused(int promise, String call, long want, ToLongFunction<CurveMeetings> got) {
+        CurveMeetings x = sample();
+        refused(promise, call, want, x, () -> got.applyAsLong(x));
+    }
+
     /** A call that answers an error code changes nothing. */
-    private static void refused(int promise, String call, long want, CurveMeetings x, java.util.function.LongSupplier got) {
+    private static void refused(int promise, String call, long want, CurveMeetings x, LongSupplier got) {
         String before = shown(x);
         Checks.due(promise, call, want, got);
         Checks.due(promise, call + " changes nothing", true, () -> shown(x).equals(before));
@@ -66,14 +76,14 @@ final class ChangesTest {
         Checks.due(7, "undoCount() after moves", 3, () -> x.undoCount());
         points(49, "moves of others", x, 1, 70801, 91002);
         for (int wrong : WRONG) {
-            refused(49, "movePoint of a wrong curve", -1, x, () -> x.movePoint(wrong, 0, 99, 0));
-            refused(49, "movePoint of a wrong point", -1, x, () -> x.movePoint(0, wrong, 99, 0));
+            refused(49, "movePoint of a wrong curve", -1, y -> y.movePoint(wrong, 0, 99, 0));
+            refused(49, "movePoint of a wrong point", -1, y -> y.movePoint(0, wrong, 99, 0));
         }
-        refused(49, "movePoint(0, 3, 1, 1)", -1, x, () -> x.movePoint(0, 3, 1, 1));
-        refused(49, "movePoint(0, 0, 21, 1)", -2, x, () -> x.movePoint(0, 0, 21, 1));
-        refused(49, "movePoint(0, 0, -1, 1)", -2, x, () -> x.movePoint(0, 0, -1, 1));
-        refused(49, "movePoint(0, 0, 1, 21)", -2, x, () -> x.movePoint(0, 0, 1, 21));
-        refused(49, "movePoint(0, 0, 1, -1)", -2, x, () -> x.movePoint(0, 0, 1, -1));
+        refused(49, "movePoint(0, 3, 1, 1)", -1, y -> y.movePoint(0, 3, 1, 1));
+        refused(49, "movePoint(0, 0, 21, 1)", -2, y -> y.movePoint(0, 0, 21, 1));
+        refused(49, "movePoint(0, 0, -1, 1)", -2, y -> y.movePoint(0, 0, -1, 1));
+        refused(49, "movePoint(0, 0, 1, 21)", -2, y -> y.movePoint(0, 0, 1, 21));
+        refused(49, "movePoint(0, 0, 1, -1)", -2, y -> y.movePoint(0, 0, 1, -1));
     }
 
     private static void weighing() {
@@ -85,12 +95,12 @@ final class ChangesTest {
         Checks.due(7, "undoCount() after weights", 4, () -> x.undoCount());
         points(50, "setWeight", x, 0, 10202, 30402, 50603);
         for (int wrong : WRONG) {
-            refused(50, "setWeight of a wrong curve", -1, x, () -> x.setWeight(wrong, 0, 9));
-            refused(50, "setWeight of a wrong point", -1, x, () -> x.setWeight(0, wrong, 9));
-            refused(50, "setWeight with a wrong weight", -2, x, () -> x.setWeight(0, 0, wrong));
+            refused(50, "setWeight of a wrong curve", -1, y -> y.setWeight(wrong, 0, 9));
+            refused(50, "setWeight of a wrong point", -1, y -> y.setWeight(0, wrong, 9));
+            refused(50, "setWeight with a wrong weight", -2, y -> y.setWeight(0, 0, wrong));
         }
-        refused(50, "setWeight(0, 3, 1)", -1, x, () -> x.setWeight(0, 3, 1));
-        refused(50, "setWeight(0, 0, 0)", -2, x, () -> x.setWeight(0, 0, 0));
+        refused(50, "setWeight(0, 3, 1)", -1, y -> y.setWeight(0, 3, 1));
+        refused(50, "setWeight(0, 0, 0)", -2, y -> y.setWeight(0, 0, 0));
     }
 
     private static void inserting() {
@@ -103,20 +113,20 @@ final class ChangesTest {
         points(51, "insertPoint(0, 3, 1, 1, 1)", x, 0, 10201, 30402, 50603, 10101);
         Checks.due(7, "undoCount() after insertPoint", 3, () -> x.undoCount());
         for (int wrong : WRONG) {
-            refused(51, "insertPoint in a wrong curve", -1, x, () -> x.insertPoint(wrong, 9, 99, 0, 9));
-            refused(51, "insertPoint with a wrong weight", -2, x, () -> x.insertPoint(3, 0, 0, 0, wrong));
+            refused(51, "insertPoint in a wrong curve", -1, y -> y.insertPoint(wrong, 9, 99, 0, 9));
+            refused(51, "insertPoint with a wrong weight", -2, y -> y.insertPoint(3, 0, 0, 0, wrong));
         }
-        refused(51, "insertPoint(3, 3, 0, 0, 1)", -2, x, () -> x.insertPoint(3, 3, 0, 0, 1));
-        refused(51, "insertPoint(3, -1, 0, 0, 1)", -2, x, () -> x.insertPoint(3, -1, 0, 0, 1));
-        refused(51, "insertPoint(3, 0, 21, 0, 1)", -2, x, () -> x.insertPoint(3, 0, 21, 0, 1));
-        refused(51, "insertPoint(3, 0, -1, 0, 1)", -2, x, () -> x.insertPoint(3, 0, -1, 0, 1));
-        refused(51, "insertPoint(3, 0, 0, 21, 1)", -2, x, () -> x.insertPoint(3, 0, 0, 21, 1));
-        refused(51, "insertPoint(3, 0, 0, -1, 1)", -2, x, () -> x.insertPoint(3, 0, 0, -1, 1));
-        refused(51, "insertPoint(3, 0, 0, 0, 0)", -2, x, () -> x.insertPoint(3, 0, 0, 0, 0));
-        refused(51, "insertPoint(2, 4, 0, 0, 1)", -3, x, () -> x.insertPoint(2, 4, 0, 0, 1));
-        refused(51, "insertPoint(2, 0, 0, 0, 1)", -3, x, () -> x.insertPoint(2, 0, 0, 0, 1));
-        refused(51, "insertPoint(2, 5, 0, 0, 1)", -2, x, () -> x.insertPoint(2, 5, 0, 0, 1));
-        refused(51, "insertPoint(2, 0, 0, 0, 4)", -2, x, () -> x.insertPoint(2, 0, 0, 0, 4));
+        refused(51, "insertPoint(3, 3, 0, 0, 1)", -2, y -> y.insertPoint(3, 3, 0, 0, 1));
+        refused(51, "insertPoint(3, -1, 0, 0, 1)", -2, y -> y.insertPoint(3, -1, 0, 0, 1));
+        refused(51, "insertPoint(3, 0, 21, 0, 1)", -2, y -> y.insertPoint(3, 0, 21, 0, 1));
+        refused(51, "insertPoint(3, 0, -1, 0, 1)", -2, y -> y.insertPoint(3, 0, -1, 0, 1));
+        refused(51, "insertPoint(3, 0, 0, 21, 1)", -2, y -> y.insertPoint(3, 0, 0, 21, 1));
+        refused(51, "insertPoint(3, 0, 0, -1, 1)", -2, y -> y.insertPoint(3, 0, 0, -1, 1));
+        refused(51, "insertPoint(3, 0, 0, 0, 0)", -2, y -> y.insertPoint(3, 0, 0, 0, 0));
+        refused(51, "insertPoint(2, 4, 0, 0, 1)", -3, y -> y.insertPoint(2, 4, 0, 0, 1));
+        refused(51, "insertPoint(2, 0, 0, 0, 1)", -3, y -> y.insertPoint(2, 0, 0, 0, 1));
+        refused(51, "insertPoint(2, 5, 0, 0, 1)", -2, y -> y.insertPoint(2, 5, 0, 0, 1));
+        refused(51, "insertPoint(2, 0, 0, 0, 4)", -2, y -> y.insertPoint(2, 0, 0, 0, 4));
     }
 
     private static void dropping() {
@@ -131,8 +141,8 @@ final class ChangesTest {
         points(52, "dropPoint(0, 0)", x, 0, 30402, 50603);
         Checks.due(7, "undoCount() after dropPoint", 3, () -> x.undoCount());
         for (int wrong : WRONG) {
-            refused(52, "dropPoint of a wrong curve", -1, x, () -> x.dropPoint(wrong, 0));
-            refused(52, "dropPoint of a wrong point", -1, x, () -> x.dropPoint(0, wrong));
+            refused(52, "dropPoint of a wrong curve", -1, y -> y.dropPoint(wrong, 0));
+            refused(52, "dropPoint of a wrong point", -1, y -> y.dropPoint(0, wrong));
         }
         x.undo();
         points(52, "undo of dropPoint(0, 0)", x, 0, 10201, 30402, 50603);
@@ -146,7 +156,7 @@ final class ChangesTest {
         points(53, "reverse(2)", x, 2, 30301, 20201, 10101, 1);
         Checks.due(7, "undoCount() after reverse", 4, () -> x.undoCount());
         for (int wrong : WRONG) {
-            refused(53, "reverse of a wrong curve", -1, x, () -> x.reverse(wrong));
+            refused(53, "reverse of a wrong curve", -1, y -> y.reverse(wrong));
         }
     }
 
@@ -162,15 +172,15 @@ final class ChangesTest {
         Checks.due(54, "setLine(1, -5, 0, 200) again", 0, () -> x.setLine(1, -5, 0, 200));
         Checks.due(7, "undoCount() after setLine", 6, () -> x.undoCount());
         Checks.dueRow(54, "lineNumber(0, k) of the other line", new long[] {0, -5, 50}, k -> x.lineNumber(0, k));
-        refused(54, "setLine(2, 0, 0, 0)", -1, x, () -> x.setLine(2, 0, 0, 0));
-        refused(54, "setLine(-1, 1, 1, 1)", -1, x, () -> x.setLine(-1, 1, 1, 1));
-        refused(54, "setLine(0, 0, 0, 1)", -2, x, () -> x.setLine(0, 0, 0, 1));
-        refused(54, "setLine(0, 6, 1, 1)", -2, x, () -> x.setLine(0, 6, 1, 1));
-        refused(54, "setLine(0, -6, 1, 1)", -2, x, () -> x.setLine(0, -6, 1, 1));
-        refused(54, "setLine(0, 1, 6, 1)", -2, x, () -> x.setLine(0, 1, 6, 1));
-        refused(54, "setLine(0, 1, -6, 1)", -2, x, () -> x.setLine(0, 1, -6, 1));
-        refused(54, "setLine(0, 1, 1, 201)", -2, x, () -> x.setLine(0, 1, 1, 201));
-        refused(54, "setLine(0, 1, 1, -201)", -2, x, () -> x.setLine(0, 1, 1, -201));
+        refused(54, "setLine(2, 0, 0, 0)", -1, y -> y.setLine(2, 0, 0, 0));
+        refused(54, "setLine(-1, 1, 1, 1)", -1, y -> y.setLine(-1, 1, 1, 1));
+        refused(54, "setLine(0, 0, 0, 1)", -2, y -> y.setLine(0, 0, 0, 1));
+        refused(54, "setLine(0, 6, 1, 1)", -2, y -> y.setLine(0, 6, 1, 1));
+        refused(54, "setLine(0, -6, 1, 1)", -2, y -> y.setLine(0, -6, 1, 1));
+        refused(54, "setLine(0, 1, 6, 1)", -2, y -> y.setLine(0, 1, 6, 1));
+        refused(54, "setLine(0, 1, -6, 1)", -2, y -> y.setLine(0, 1, -6, 1));
+        refused(54, "setLine(0, 1, 1, 201)", -2, y -> y.setLine(0, 1, 1, 201));
+        refused(54, "setLine(0, 1, 1, -201)", -2, y -> y.setLine(0, 1, 1, -201));
     }
 
     private static void settings() {
@@ -183,12 +193,12 @@ final class ChangesTest {
         Checks.due(55, "undoCount() after that", 5, () -> x.undoCount());
         Checks.due(55, "getSetting(LIMIT) after that", 1, () -> x.getSetting(0));
         Checks.due(55, "getSetting(DEPTH) after that", 1, () -> x.getSetting(1));
-        refused(55, "setSetting(LIMIT, 0)", -2, x, () -> x.setSetting(0, 0));
-        refused(55, "setSetting(LIMIT, 13)", -2, x, () -> x.setSetting(0, 13));
-        refused(55, "setSetting(DEPTH, 0)", -2, x, () -> x.setSetting(1, 0));
-        refused(55, "setSetting(DEPTH, 7)", -2, x, () -> x.setSetting(1, 7));
-        refused(55, "setSetting(2, 1)", -2, x, () -> x.setSetting(2, 1));
-        refused(55, "setSetting(-1, 1)", -2, x, () -> x.setSetting(-1, 1));
+        refused(55, "setSetting(LIMIT, 0)", -2, y -> y.setSetting(0, 0));
+        refused(55, "setSetting(LIMIT, 13)", -2, y -> y.setSetting(0, 13));
+        refused(55, "setSetting(DEPTH, 0)", -2, y -> y.setSetting(1, 0));
+        refused(55, "setSetting(DEPTH, 7)", -2, y -> y.setSetting(1, 7));
+        refused(55, "setSetting(2, 1)", -2, y -> y.setSetting(2, 1));
+        refused(55, "setSetting(-1, 1)", -2, y -> y.setSetting(-1, 1));
         Checks.due(56, "undo() of the same value", 4, () -> x.undo());
         Checks.due(56, "getSetting(DEPTH) then", 1, () -> x.getSetting(1));
         Checks.due(56, "undo()", 3, () -> x.undo());
@@ -196,24 +206,20 @@ final class ChangesTest {
     }
 
     private static void undoing() {
-        CurveMeetings x = sample();
-        String before = shown(x);
-        Runnable[] changes = {() -> x.movePoint(0, 0, 9, 9), () -> x.setWeight(1, 1, 3), () -> x.insertPoint(0, 1, 8, 8, 2), () -> x.dropPoint(2, 0),
-            () -> x.reverse(0), () -> x.setLine(1, 3, 3, 3), () -> x.setSetting(0, 3), () -> x.setSetting(1, 2)};
-        String[] states = new String[changes.length];
-        for (int k = 0; k < changes.length; k++) {
-            states[k] = shown(x);
-            changes[k].run();
+        List<ToLongFunction<CurveMeetings>> changes = List.of(x -> x.movePoint(0, 0, 9, 9), x -> x.setWeight(1, 1, 3), x -> x.insertPoint(0, 1, 8, 8, 2),
+            x -> x.dropPoint(2, 0), x -> x.reverse(0), x -> x.setLine(1, 3, 3, 3), x -> x.setSetting(0, 3), x -> x.setSetting(1, 2));
+        CurveMeetings all = sample();
+        String before = shown(all);
+        changes.forEach(change -> change.applyAsLong(all));
+        for (int left = changes.size() - 1; left >= 0; left--) {
+            Checks.due(56, "undo() of change " + left, left, () -> all.undo());
         }
-        for (int k = changes.length - 1; k >= 0; k--) {
-            int left = k;
-            Checks.due(56, "undo() of change " + k, k, () -> x.undo());
-            Checks.due(56, "the figure after undo of change " + k, true, () -> shown(x).equals(states[left]));
-        }
-        Checks.due(56, "the figure after all undos", true, () -> shown(x).equals(before));
-        refused(56, "undo() without a change", -1, x, () -> x.undo());
-        for (Runnable change : changes) {
-            change.run();
+        Checks.due(56, "the figure after all undos", true, () -> shown(all).equals(before));
+        refused(56, "undo() without a change", -1, all, () -> all.undo());
+        for (ToLongFunction<CurveMeetings> change : changes) {
+            CurveMeetings x = sample();
+            change.applyAsLong(x);
+            Checks.due(56, "a lone change", false, () -> shown(x).equals(before));
             Checks.due(56, "undo() of a lone change", 0, () -> x.undo());
             Checks.due(56, "the figure after that", true, () -> shown(x).equals(before));
         }

@@ -8,7 +8,8 @@ import java.util.List;
 /** Sends the same calls, the same ones each time, to the program and to the model, and compares the answers. */
 final class FuzzTest {
     private static final int RUNS = 700;
-    private static final int CALLS = 400;
+    /** What later calls answer is free. */
+    private static final int CALLS = 512;
     private static final int SWEEPS = 150;
     private static final int[] WILD = {-1, Integer.MIN_VALUE, Integer.MAX_VALUE, -100, 64, 4096, 1 << 30, 31, 32, 33};
 
@@ -25,6 +26,7 @@ final class FuzzTest {
     private CurveMeetings program;
     private Model model;
     private boolean wrong;
+    private int calls;
 
     static void run() throws ReflectiveOperationException {
         new FuzzTest().runAll();
@@ -42,8 +44,6 @@ final class FuzzTest {
         }
         for (int run = 0; run < RUNS; run++) {
             seed = 7919L * run + 1;
-            wrong = false;
-            log.setLength(0);
             oneRun();
             Checks.check("random run " + run + ":\n" + log, 0, wrong ? 1 : 0);
         }
@@ -57,11 +57,16 @@ final class FuzzTest {
 
     /** New objects for each two curves, so that none is used for more than 512 calls. */
     private void begin(String text) throws ReflectiveOperationException {
+        makeObjects();
+        loadText(text);
+    }
+
+    private void makeObjects() {
         program = new CurveMeetings();
         model = new Model();
         wrong = false;
+        calls = 0;
         log.setLength(0);
-        loadText(text);
     }
 
     private void end(String text) {
@@ -122,13 +127,12 @@ final class FuzzTest {
     }
 
     private void oneRun() throws ReflectiveOperationException {
-        program = new CurveMeetings();
-        model = new Model();
+        makeObjects();
         int grid = 1 + random(6);
         if (random(10) > 0) {
             loadText(text(grid));
         }
-        for (int k = 0; k < CALLS && !wrong; k++) {
+        while (calls < CALLS && !wrong) {
             int choice = random(150);
             if (choice == 0) {
                 loadText(text(grid));
@@ -298,9 +302,10 @@ final class FuzzTest {
     }
 
     private void call(int index, Object[] arguments) throws ReflectiveOperationException {
-        if (wrong) {
+        if (wrong || calls >= CALLS) {
             return;
         }
+        calls++;
         Object got = answer(own.get(index), program, arguments);
         Object want = answer(models.get(index), model, arguments);
         log.append(own.get(index).getName()).append(java.util.Arrays.toString(arguments)).append(" answered ").append(got);
