@@ -19,6 +19,7 @@ public final class AllTests {
         MeetingBoundaries.run();
         ChangesTest.run();
         ChangeBoundaries.run();
+        AloneTest.run();
         Checks.requireAllPromises(PROMISES);
         LanguageTest.run(Path.of(arguments[0]));
         FuzzTest.run();

@@ -18,6 +18,8 @@ final class FigureBoundaries {
         controls();
         lineNumbers();
         cellRanges();
+        cellsOfOthers();
+        cellsAfterChanges();
         cellNumbers();
         halving();
         placeRanges();
@@ -206,6 +208,106 @@ final class FigureBoundaries {
         Checks.dueForAll("cellControl(curve, 9, 9, 9, 9)", new int[] {MIN, -1, 8, MAX}, THROWS, k -> x.cellControl(k, 9, 9, 9, 9));
     }
 
+    /** Depths and cells out of range, when the cells of all curves are known. */
+    private static void cellsOfOthers() {
+        CurveMeetings x = Texts.of("curve a 3 4 2 20 20 1; curve b 5 6 1 7 8 3; curve c 9 10 1 11 12 1;");
+        for (int curve = 2; curve >= 0; curve--) {
+            int at = curve;
+            Checks.says(14, "0 to 6; -1 if depth .. is out of range, beside other curves");
+            Checks.due("cellControl(" + at + ", 6, 63, 1, 2)", at == 1 ? 192 : 64, () -> x.cellControl(at, 6, 63, 1, 2));
+        }
+        for (int depth = 7; depth <= 12; depth++) {
+            int at = depth;
+            int[] cells = {0, 1, 2, 63, 64, (1 << depth) - 1, 1 << depth};
+            Checks.says(14, "depth: 0 to 6, beside other curves");
+            Checks.dueForAll("cellControl(0, " + depth + ", cell, 0, 0)", cells, -1, k -> x.cellControl(0, at, k, 0, 0));
+            Checks.says(15, "depth: 0 to 6, beside other curves");
+            Checks.dueForAll("placeNumerator(0, " + depth + ", cell, 0)", cells, -1, k -> x.placeNumerator(0, at, k, 0));
+            Checks.says(16, "depth: 0 to 6, beside other curves");
+            Checks.dueForAll("placeDenominator(0, " + depth + ", cell, 0)", cells, -1, k -> x.placeDenominator(0, at, k, 0));
+            Checks.says(17, "depth: 0 to 6, beside other curves");
+            Checks.dueForAll("boxSide(0, " + depth + ", cell, 0)", cells, -1, k -> x.boxSide(0, at, k, 0));
+        }
+        // 1 << -1 is the least int: a depth of -1 has no such cell either.
+        int[] least = {MIN, MIN + 1, -1, 0, 1, MAX};
+        Checks.says(14, "depth: 0 to 6, below that");
+        Checks.dueForAll("cellControl(0, -1, cell, 0, 0)", least, -1, k -> x.cellControl(0, -1, k, 0, 0));
+        Checks.says(15, "depth: 0 to 6, below that");
+        Checks.dueForAll("placeNumerator(0, -1, cell, 0)", least, -1, k -> x.placeNumerator(0, -1, k, 0));
+        Checks.says(16, "depth: 0 to 6, below that");
+        Checks.dueForAll("placeDenominator(0, -1, cell, 0)", least, -1, k -> x.placeDenominator(0, -1, k, 0));
+        Checks.says(17, "depth: 0 to 6, below that");
+        Checks.dueForAll("boxSide(0, -1, cell, 0)", least, -1, k -> x.boxSide(0, -1, k, 0));
+        Checks.says(14, "the first number of the first curve");
+        Checks.due("cellControl(0, 0, 0, 0, 0)", 6, () -> x.cellControl(0, 0, 0, 0, 0));
+        Checks.says(15, "the first number of the first curve");
+        Checks.due("placeNumerator(0, 0, 0, 0)", 3, () -> x.placeNumerator(0, 0, 0, 0));
+        Checks.says(17, "the first number of the first curve");
+        Checks.due("boxSide(0, 0, 0, 0)", 300, () -> x.boxSide(0, 0, 0, 0));
+    }
+
+    private static String points(int[][] points) {
+        StringBuilder text = new StringBuilder("curve a");
+        for (int[] point : points) {
+            text.append(' ').append(point[0]).append(' ').append(point[1]).append(' ').append(point[2]);
+        }
+        return text + ";";
+    }
+
+    /** X, Y and W of the first and the last cells of the least and the greatest depth. */
+    private static String cells(CurveMeetings x) {
+        StringBuilder all = new StringBuilder();
+        for (int depth = 0; depth <= 6; depth += 6) {
+            for (int k = 0; k <= x.degree(0); k++) {
+                for (int what = 0; what < 3; what++) {
+                    all.append(x.cellControl(0, depth, 0, k, what)).append(' ').append(x.cellControl(0, depth, (1 << depth) - 1, k, what)).append(' ');
+                }
+            }
+        }
+        return all.toString();
+    }
+
+    /** Cells that were asked for before a change are those of the curve as it was: each number of it counts. */
+    private static void cellsAfterChanges() {
+        int[][] places = {{0, 0, 1}, {20, 0, 3}, {0, 13, 2}, {7, 5, 2}};
+        for (int size = 2; size <= 4; size++) {
+            for (int k = 0; k < size; k++) {
+                int at = k;
+                int[][] moved = new int[size][];
+                int[][] weighed = new int[size][];
+                for (int j = 0; j < size; j++) {
+                    moved[j] = places[j].clone();
+                    weighed[j] = places[j].clone();
+                }
+                moved[k][0] += moved[k][0] < 20 ? 1 : -1;
+                weighed[k][2] = 4 - weighed[k][2];
+                weighed[k][2] = weighed[k][2] == places[k][2] ? 1 : weighed[k][2];
+                String before = points(java.util.Arrays.copyOf(places, size));
+                String want = cells(Texts.of(before));
+                String afterMove = cells(Texts.of(points(moved)));
+                String afterWeight = cells(Texts.of(points(weighed)));
+                int x = moved[k][0];
+                int weight = weighed[k][2];
+                CurveMeetings y = Texts.of(before);
+                Checks.says(14, "the cells of a curve that has been changed");
+                Checks.due("cells of " + before, true, () -> cells(y).equals(want));
+                y.movePoint(0, k, x, places[k][1]);
+                Checks.due("cells after a move of " + at + " in " + before, true, () -> cells(y).equals(afterMove));
+                y.undo();
+                Checks.due("cells after undo of a move of " + at + " in " + before, true, () -> cells(y).equals(want));
+                y.setWeight(0, k, weight);
+                Checks.due("cells after a weight of " + at + " in " + before, true, () -> cells(y).equals(afterWeight));
+            }
+        }
+        Checks.says(14, "the cells of another text's curve");
+        String other = "curve a 3 4 2 9 2 1;";
+        CurveMeetings y = Texts.of("curve a 1 2 3 4 5 3;");
+        cells(y);
+        Texts.load(y, other);
+        String want = cells(Texts.of(other));
+        Checks.due("cells of a curve with all numbers different", true, () -> cells(y).equals(want));
+    }
+
     private static void cellNumbers() {
         Checks.says(14, "the numbers of a cell times 2^(n * d) are integers, at their greatest and least");
         CurveMeetings x = Texts.of("curve a 20 0 3 20 0 3 20 0 3 20 0 3; curve b 20 0 3 20 0 3; curve c 0 20 1 0 20 1 0 20 1; curve d 0 0 1 20 20 3;");
@@ -341,6 +443,11 @@ final class FigureBoundaries {
         Checks.dueAt("boxSide(1, 3, 2, side)", new int[] {0, 1, 2, 3}, new long[] {1000, 714, 1286, 1000}, k -> x.boxSide(1, 3, 2, k));
         Checks.dueAt("boxSide(1, 3, 3, side)", new int[] {0, 1, 2, 3}, new long[] {1285, 500, 1500, 715}, k -> x.boxSide(1, 3, 3, k));
         Checks.dueAt("boxSide of a curve at one place", new int[] {0, 1, 2, 3}, new long[] {700, 900, 700, 900}, k -> x.boxSide(2, 6, 63, k));
+        Checks.says(17, "the least and the greatest, though they differ by as little as they can");
+        CurveMeetings near = Texts.of("curve a 4 5 1 5 6 1; curve b 5 6 1 4 5 1; curve c 0 0 1 1 0 2 0 1 3;");
+        Checks.dueAt("boxSide(0, 0, 0, side)", new int[] {0, 1, 2, 3}, new long[] {400, 500, 500, 600}, k -> near.boxSide(0, 0, 0, k));
+        Checks.dueAt("boxSide(1, 0, 0, side)", new int[] {0, 1, 2, 3}, new long[] {400, 500, 500, 600}, k -> near.boxSide(1, 0, 0, k));
+        Checks.dueAt("boxSide(2, 0, 0, side)", new int[] {0, 1, 2, 3}, new long[] {0, 0, 100, 100}, k -> near.boxSide(2, 0, 0, k));
         Checks.says(17, "the places of its control points, not only of its ends");
         Checks.dueAt("boxSide(3, 0, 0, side)", new int[] {0, 1, 2, 3}, new long[] {0, 0, 2000, 2000}, k -> x.boxSide(3, 0, 0, k));
     }
@@ -417,6 +524,10 @@ final class FigureBoundaries {
         Checks.says(20, "the first one is that of least x (of several with the least y)");
         hull("1 0 1 0 20 1", 1, 0);
         hull("0 20 1 0 19 1 1 0 1", 1, 2, 0);
+        hull("5 4 1 5 3 1 20 20 1", 1, 2, 0);
+        hull("5 6 1 5 7 1 20 0 1", 0, 2, 1);
+        hull("5 19 1 5 18 1 5 20 1", 1, 2);
+        hull("6 0 1 5 20 1 6 1 1", 1, 0, 2);
         hull("0 0 1 0 20 1 20 20 1 20 0 1", 0, 3, 2, 1);
         hull("20 0 1 0 20 1 20 20 1 0 0 1", 3, 0, 2, 1);
         Checks.says(20, "all of the hull lies to the left .. or straight ahead");

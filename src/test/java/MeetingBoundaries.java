@@ -12,9 +12,12 @@ final class MeetingBoundaries {
     static void run() {
         bands();
         bandEdges();
+        bandsOneByOne();
         clippedCells();
+        bandsInAllDirections();
         clippingDepths();
         boxesThatTouch();
+        leastGaps();
         boxesOfWeights();
         pairRanges();
         pairDepths();
@@ -73,6 +76,22 @@ final class MeetingBoundaries {
         }
     }
 
+    /** The band of one curve says nothing of that of the next one. */
+    private static void bandsOneByOne() {
+        CurveMeetings x = Texts.of("curve a 0 20 1 20 20 1 0 0 1 20 0 1; curve b 0 0 1 20 20 1; curve c 0 0 1 1 0 1 1 1 1; curve d 0 0 1 0 1 1 1 1 1;");
+        int[] curves = {0, 1, 2, 3, 1, 3, 0, 2, 1};
+        Checks.says(35, "the least number, of one curve after another");
+        Checks.dueAt("bandLow", curves, new long[] {-400, 0, -1, 0, 0, 0, -400, -1, 0}, k -> x.bandLow(k));
+        Checks.says(36, "the greatest number, of one curve after another");
+        Checks.dueAt("bandHigh", curves, new long[] {400, 0, 0, 1, 0, 1, 400, 0, 0}, k -> x.bandHigh(k));
+        for (int curve = 0; curve < 4; curve++) {
+            CurveMeetings y = Texts.of("curve a 0 20 1 20 20 1 0 0 1 20 0 1; curve b 0 0 1 20 20 1; curve c 0 0 1 1 0 1 1 1 1; curve d 0 0 1 0 1 1 1 1 1;");
+            int at = curve;
+            int want = new int[] {400, 0, 0, 1}[curve];
+            Checks.due("bandHigh(" + at + ") alone", want, () -> y.bandHigh(at));
+        }
+    }
+
     private static void left(int first, int last, String band, String points, int depth) {
         CurveMeetings x = two(band, points);
         x.setSetting(1, depth);
@@ -107,6 +126,47 @@ final class MeetingBoundaries {
         left(0, 0, flat, "0 18 1 0 2 1 0 20 1", 1);
         left(-1, -1, flat, "0 18 1 0 3 1 0 20 1", 1);
         left(-1, -1, flat, "0 18 1 0 2 1 0 20 1", 2);
+    }
+
+    /** As much above or below the band as it can be, and not at all: a third at the middle of a short way. */
+    private static void bandsInAllDirections() {
+        String[] bands = {"0 10 1 1 10 1", "1 10 1 0 10 1"};
+        for (String band : bands) {
+            left(0, 0, band, "0 9 1 0 11 2", 1);
+            left(1, 1, band, "0 9 2 0 11 1", 1);
+            left(0, 0, band, "0 11 1 0 9 2", 1);
+            left(1, 1, band, "0 11 2 0 9 1", 1);
+            left(0, 1, band, "0 9 2 0 11 2", 1);
+        }
+        for (String band : new String[] {"10 0 1 10 1 1", "10 1 1 10 0 1"}) {
+            left(0, 0, band, "9 0 1 11 0 2", 1);
+            left(1, 1, band, "9 0 2 11 0 1", 1);
+            left(0, 0, band, "11 20 1 9 20 2", 1);
+            left(0, 1, band, "11 20 2 9 20 2", 1);
+            left(0, 1, band, "10 20 1 10 3 2", 1);
+            left(-1, -1, band, "11 0 1 11 20 2", 3);
+            left(-1, -1, band, "9 0 1 9 20 2", 3);
+        }
+        // Bands that rise or fall: x = y, x + y = 20, and y from x to x + 2.
+        for (String band : new String[] {"0 0 1 20 20 1", "20 20 1 0 0 1", "3 3 1 4 4 2"}) {
+            left(0, 0, band, "9 10 1 11 10 2", 1);
+            left(1, 1, band, "9 10 2 11 10 1", 1);
+            left(0, 7, band, "0 0 1 17 17 3", 3);
+            left(-1, -1, band, "0 1 1 19 20 1", 3);
+            left(-1, -1, band, "1 0 1 20 19 1", 3);
+            left(1, 2, band, "0 20 1 20 0 1", 2);
+        }
+        for (String band : new String[] {"0 20 1 20 0 1", "20 0 1 0 20 1", "11 9 1 12 8 3"}) {
+            left(0, 0, band, "9 10 1 11 10 2", 1);
+            left(0, 7, band, "3 17 1 17 3 3", 3);
+            left(-1, -1, band, "0 19 1 19 0 1", 3);
+            left(-1, -1, band, "1 20 1 20 1 1", 3);
+            left(1, 2, band, "0 0 1 20 20 1", 2);
+        }
+        left(0, 7, "0 0 1 1 3 1 18 18 1", "2 4 1 16 18 1", 3);
+        left(-1, -1, "0 0 1 1 3 1 18 18 1", "2 5 1 16 19 1", 3);
+        left(0, 7, "0 0 1 1 3 1 18 18 1", "2 2 1 16 16 1", 3);
+        left(-1, -1, "0 0 1 1 3 1 18 18 1", "2 1 1 16 15 1", 3);
     }
 
     private static void clippingDepths() {
@@ -191,6 +251,20 @@ final class MeetingBoundaries {
         pairs("0 0 1 20 0 1 0 20 1", "11 0 1 20 0 1");
     }
 
+    /** The halves of one curve come together at 2/3, or at 1/3, those of the other one at 1/2. */
+    private static void leastGaps() {
+        pairs("0 0 1 1 0 2", "0 0 1 1 0 1", 0, 1, 101);
+        pairs("0 0 1 1 0 1", "0 0 1 1 0 2", 0, 100, 101);
+        pairs("0 0 2 1 0 1", "0 0 1 1 0 1", 0, 100, 101);
+        pairs("0 0 1 1 0 1", "0 0 2 1 0 1", 0, 1, 101);
+        pairs("0 0 1 0 1 2", "0 0 1 0 1 1", 0, 1, 101);
+        pairs("0 0 1 0 1 1", "0 0 1 0 1 2", 0, 100, 101);
+        pairs("0 0 2 0 1 1", "0 0 1 0 1 1", 0, 100, 101);
+        pairs("0 0 1 0 1 1", "0 0 2 0 1 1", 0, 1, 101);
+        pairs("0 0 2 1 0 2", "0 0 1 1 0 1", 0, 1, 100, 101);
+        pairs("0 0 3 0 1 3", "0 0 1 0 1 1", 0, 1, 100, 101);
+    }
+
     private static void pairRanges() {
         Checks.says(40, "NOT_FOUND if there is no such pair");
         CurveMeetings x = Texts.of("curve a 0 0 1 20 20 1; curve b 0 20 1 20 0 1; curve c 0 0 1 0 0 1; curve d 5 20 1 5 20 1; set depth 2;");
@@ -211,7 +285,7 @@ final class MeetingBoundaries {
         Checks.says(39, "both of the depth DEPTH (1 to 6)");
         CurveMeetings x = Texts.of("curve a 0 0 1 20 20 1; curve b 0 20 1 20 0 1; curve c 0 6 1 14 20 1;");
         long[] self = {4, 10, 22, 46, 94, 190};
-        // Between a and c lie 6: boxes of 20 / 2^depth meet no longer when they are less than that.
+        // c runs 6 above a at first: their boxes are apart as soon as they are small enough.
         for (int depth = 1; depth <= 6; depth++) {
             x.setSetting(1, depth);
             int at = depth;
@@ -340,7 +414,7 @@ final class MeetingBoundaries {
         Checks.dueAt("meetingOf(1, 0, 0, cell) reversed", new int[] {1, 3}, new long[] {0, 1}, k -> y.meetingOf(1, 0, 0, k));
     }
 
-    /** The last cell of a row and the first one of the next are no neighbours, though 63 and 64 are. */
+    /** Pairs at opposite corners of the square of all cells: nothing leads round its edges. */
     private static void cellsOfMeetings() {
         Checks.says(41, "cells at the edges: the last and the first one are no neighbours");
         CurveMeetings x = two("0 0 1 20 0 1", "20 0 1 0 20 1 0 0 1");
@@ -483,6 +557,49 @@ final class MeetingBoundaries {
             parts.setSetting(1, depth);
             int at = depth;
             Checks.due("curvesNear(0) at depth " + at, at <= 2 ? 2 : 0, () -> parts.curvesNear(0));
+        }
+        for (int depth = 6; depth >= 1; depth--) {
+            parts.setSetting(1, depth);
+            int at = depth;
+            Checks.due("curvesNear(0) at depth " + at + " after greater ones", at <= 2 ? 2 : 0, () -> parts.curvesNear(0));
+            Checks.due("pairCount(0, 1) is 0 at depth " + at + " after greater ones", at > 2, () -> parts.pairCount(0, 1) == 0);
+            Checks.due("busiestCurve() at depth " + at + " after greater ones", 0, () -> parts.busiestCurve());
+        }
+        Checks.says(46, "a pair in whichever cells");
+        String[] ends = {"9 9 1 20 20 1", "20 20 1 9 9 1"};
+        String[] others = {"9 9 1 0 0 1", "0 0 1 9 9 1", "8 9 1 0 0 1", "0 0 1 8 9 1", "9 8 1 0 0 1", "0 0 1 9 8 1"};
+        for (String end : ends) {
+            for (int k = 0; k < others.length; k++) {
+                long there = k < 2 ? 1 : 0;
+                for (int depth = 1; depth <= 6; depth++) {
+                    CurveMeetings touching = two(end, others[k]);
+                    touching.setSetting(1, depth);
+                    String what = end + " and " + others[k] + " at depth " + depth;
+                    Checks.due("curvesNear(0) of " + what, 2 * there, () -> touching.curvesNear(0));
+                    Checks.due("curvesNear(1) of " + what, there, () -> touching.curvesNear(1));
+                    Checks.due("pairCount(0, 1) of " + what, there, () -> touching.pairCount(0, 1));
+                }
+            }
+        }
+        // A crossing in one cell of each, whichever these are.
+        for (int place = 0; place < 400; place++) {
+            int x0 = place % 20;
+            int y0 = place / 20;
+            CurveMeetings cross = two("0 " + y0 + " 1 20 " + y0 + " 1", x0 + " 0 1 " + x0 + " 20 1");
+            cross.setSetting(1, 6);
+            Checks.due("curvesNear(0) of a crossing at " + x0 + ", " + y0, 2, () -> cross.curvesNear(0));
+            Checks.due("curvesNear(1) of a crossing at " + x0 + ", " + y0, 1, () -> cross.curvesNear(1));
+        }
+        // In the middle of the one, where its boxes are small, or at a side of a long one.
+        for (int place = 0; place <= 20; place++) {
+            CurveMeetings across = two("0 0 1 20 20 1", "0 " + place + " 1 20 " + place + " 1");
+            CurveMeetings beside = two("0 3 1 20 17 2", place + " 0 1 " + place + " 2 1");
+            across.setSetting(1, 6);
+            beside.setSetting(1, 6);
+            Checks.due("curvesNear(0) of a line at the height " + place, 2, () -> across.curvesNear(0));
+            Checks.due("curvesNear(1) of a line at the height " + place, 1, () -> across.curvesNear(1));
+            Checks.due("curvesNear(0) of a line below at " + place, 0, () -> beside.curvesNear(0));
+            Checks.due("curvesNear(1) of a line below at " + place, 0, () -> beside.curvesNear(1));
         }
         Checks.says(46, "IndexOutOfBoundsException if curve is not a valid index");
         Checks.dueAt("curvesNear", new int[] {MIN, -1, 0, 7, 8, MAX}, new long[] {THROWS, THROWS, 254, 127, THROWS, THROWS}, k -> x.curvesNear(k));

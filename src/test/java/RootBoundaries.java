@@ -20,6 +20,7 @@ final class RootBoundaries {
         ends();
         middles();
         limits();
+        deepRoots();
         rootIndexes();
         refinedDepths();
         refinedOrder();
@@ -29,6 +30,7 @@ final class RootBoundaries {
         lineSets();
         curveSets();
         busiest();
+        fullFigure();
         movedRanges();
         movedRoots();
         indexes();
@@ -310,6 +312,45 @@ final class RootBoundaries {
         atLimit(12, "3 -5 9", none);
     }
 
+    /** Roots that come apart at a depth of their own: below it they are one DOUBTFUL root. */
+    private static void deep(String points, String line, int depth, String first, String second) {
+        CurveMeetings x = Texts.of("curve a " + points + "; line m " + line + ";");
+        int cell = Integer.parseInt(first.split(" ")[2]);
+        Checks.says(28, "A cell with more of them whose depth is LIMIT counts as one DOUBTFUL root");
+        atLimit(depth - 1, points, x, "D " + (depth - 1) + " " + cell / 2);
+        atLimit(depth, points, x, first, second);
+        if (depth < 12) {
+            atLimit(depth + 1, points, x, first, second);
+        }
+        Checks.says(30, "for a depth less than that of the root, it is the cell that contains the cell of the root");
+        for (int less = 0; less < depth; less++) {
+            int at = less;
+            Checks.due("refined(0, 0, 0, " + less + ") of " + points, cell >> depth - less, () -> x.refined(0, 0, 0, at));
+            Checks.due("refined(0, 0, 1, " + less + ") of " + points, cell >> depth - less, () -> x.refined(0, 0, 1, at));
+        }
+        Checks.due("refined(0, 0, 0, " + depth + ") of " + points, cell, () -> x.refined(0, 0, 0, depth));
+        Checks.due("refined(0, 0, 1, " + depth + ") of " + points, cell + 1, () -> x.refined(0, 0, 1, depth));
+    }
+
+    /** How deep the cells are was worked out apart from the program, with fractions. */
+    private static void deepRoots() {
+        deep("20 19 2 0 2 3 13 11 2", "5 4 -59", 6, "I 6 38", "E 6 39");
+        deep("3 9 1 18 19 3 14 10 2 6 4 3", "5 4 -133", 7, "I 7 40", "E 7 41");
+        deep("4 10 3 19 11 2 0 7 3", "5 4 -84", 7, "I 7 50", "I 7 51");
+        deep("14 16 2 5 13 3 11 0 3 11 1 1", "5 4 -58", 8, "I 8 238", "I 8 239");
+        deep("14 5 1 1 12 3 10 19 2 9 12 3", "5 4 -71", 12, "I 12 764", "I 12 765");
+        deep("10 2 1 13 2 2 19 18 1 12 19 1", "5 4 -140", 12, "I 12 3730", "I 12 3731");
+        Checks.says(28, "roots that would come apart at the depth 13 only");
+        atLimit(12, "70 19 -59 72", Texts.of("curve a 14 8 2 10 9 1 0 2 1 11 9 3; line m 5 4 -67;"), "D 12 2429");
+        Checks.says(30, "the greatest depth of a root that is known at another one");
+        CurveMeetings exact = Texts.of("curve a 3 9 1 18 19 3 14 10 2 6 4 3; line m 5 4 -133;");
+        Checks.due("refined(0, 0, 0, 12) of 40 at depth 7", 1285, () -> exact.refined(0, 0, 0, 12));
+        Checks.due("refined(0, 0, 1, 12) of 41 at depth 7", 1312, () -> exact.refined(0, 0, 1, 12));
+        CurveMeetings isolated = Texts.of("curve a 14 16 2 5 13 3 11 0 3 11 1 1; line m 5 4 -58;");
+        Checks.due("refined(0, 0, 0, 12) of 238 at depth 8", 3813, () -> isolated.refined(0, 0, 0, 12));
+        Checks.due("refined(0, 0, 1, 12) of 239 at depth 8", 3827, () -> isolated.refined(0, 0, 1, 12));
+    }
+
     private static void rootIndexes() {
         CurveMeetings x = cut(0, -1, 2, 0);
         Checks.says(27, "NOT_FOUND if there is no such root");
@@ -426,6 +467,7 @@ final class RootBoundaries {
         tangent(true, 1, -2, 4, -8);
         tangent(false, 1, 2, 4, 8);
         tangent(false, 8, 12, 18, 27);
+        tangent(false, 27, 9, 3, 1);
         // At the end once only.
         tangent(false, 0, 1, 1);
         tangent(false, 0, 1, 0);
@@ -441,6 +483,10 @@ final class RootBoundaries {
         // (1 + t)^2 (1 - 2 t) and (2 - t)^2 (1 - 2 t).
         tangent(false, 1, 1, 0, -4);
         tangent(false, 4, 0, -1, -1);
+        // (3 - 2 t)^2 (1 - 2 t), three times, and (4 - 3 t)^3: twice 3/2, and 4/3 three times.
+        tangent(false, 27, -3, -5, -3);
+        CurveMeetings beyond = Texts.of("curve a 15 4 1 4 0 1 1 0 1 0 1 1; line m 4 1 0;");
+        Checks.due("isTangent of 64 16 4 1", false, () -> beyond.isTangent(0, 0));
         Checks.says(31, "a root twice inside beside a root once outside");
         // (1 - 2 t)^2 (1 + t) and (1 - 2 t)^2 (2 - t).
         tangent(true, 1, 0, -1, 2);
@@ -558,6 +604,33 @@ final class RootBoundaries {
         Checks.due("busiestLine() of two DOUBTFUL ones and one ISOLATED one", 1, () -> doubtful.busiestLine());
     }
 
+    /** Eight curves of four control points each and six lines: nothing is left free behind the last one. */
+    private static void fullFigure() {
+        StringBuilder text = new StringBuilder();
+        for (int k = 0; k < 8; k++) {
+            int at = 14 - 2 * k;
+            text.append("curve ").append((char) ('a' + k)).append(' ');
+            text.append(at + " 0 1 " + at + " 5 1 " + at + " 15 1 " + at + " 20 1;");
+        }
+        CurveMeetings x = Texts.of(text + "line p 0 1 -10; line q 0 1 -21; line r 1 0 -14; line s 1 0 0; line t 0 1 0; line u 0 1 -20;");
+        Checks.says(32, "at most 8 curves and 6 lines");
+        Checks.dueForAll("linesMet", new int[] {0, 1, 2, 3, 4, 5, 6, 7}, 1 | 16 | 32, k -> x.linesMet(k));
+        Checks.says(33, "at most 8 curves and 6 lines");
+        Checks.dueAt("curvesMet", new int[] {0, 1, 2, 3, 4, 5}, new long[] {255, 0, 0, 0, 255, 255}, k -> x.curvesMet(k));
+        Checks.says(34, "at most 8 curves and 6 lines");
+        Checks.due("busiestLine() of three that tie", 0, () -> x.busiestLine());
+        x.setLine(0, 0, 1, -21);
+        Checks.due("busiestLine() of two that tie", 4, () -> x.busiestLine());
+        x.setLine(4, 0, 1, 1);
+        Checks.due("busiestLine(), the last one", 5, () -> x.busiestLine());
+        Checks.says(54, "the number of curves that lie on it then, of 8");
+        Checks.due("setLine(5, 1, 0, 0)", 1, () -> x.setLine(5, 1, 0, 0));
+        Checks.says(47, "at most 8 curves and 6 lines");
+        Checks.due("busiestCurve() of eight apart", 0, () -> x.busiestCurve());
+        Checks.says(46, "at most 8 curves and 6 lines");
+        Checks.dueForAll("curvesNear", new int[] {0, 3, 7}, 0, k -> x.curvesNear(k));
+    }
+
     // ---- promise 48 ----
 
     private static void movedRanges() {
@@ -586,6 +659,11 @@ final class RootBoundaries {
         Checks.due("rootsIfMoved to 4 -1 1", 0, () -> x.rootsIfMoved(0, 0, 1, 3, 9));
         CurveMeetings y = cut(0, 1, 1, 0);
         Checks.due("rootsIfMoved to 0 1 -1 0", 3, () -> y.rootsIfMoved(0, 0, 2, 0, 9));
+        CurveMeetings z = cut(3, 1, 8);
+        z.setSetting(0, 2);
+        Checks.due("rootsIfMoved to 3 -5 8 at limit 2, one DOUBTFUL root", 1, () -> z.rootsIfMoved(0, 0, 1, 1, 5));
+        z.setSetting(0, 3);
+        Checks.due("rootsIfMoved to 3 -5 8 at limit 3, two ISOLATED ones", 2, () -> z.rootsIfMoved(0, 0, 1, 1, 5));
         Checks.says(48, "would have: nothing changes");
         Checks.due("rootCount(0, 0)", 2, () -> y.rootCount(0, 0));
         Checks.due("control(0, 2, 1)", 11, () -> y.control(0, 2, 1));

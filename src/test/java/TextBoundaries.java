@@ -390,7 +390,7 @@ final class TextBoundaries {
 
     // ---- grammar ----
 
-    /** A text whose statements each stand alone, and with one token left out or put in at each place. */
+    /** A good text, and the same with each token in turn put out by one that is never allowed. */
     private static void spoil(int statements, String... tokens) {
         reads(statements, String.join(" ", tokens));
         for (int out = 0; out < tokens.length; out++) {
