@@ -623,6 +623,12 @@ final class RootBoundaries {
         Checks.due("busiestLine() of two that tie", 4, () -> x.busiestLine());
         x.setLine(4, 0, 1, 1);
         Checks.due("busiestLine(), the last one", 5, () -> x.busiestLine());
+        StringBuilder apart = new StringBuilder();
+        for (char name = 'a'; name < 'i'; name++) {
+            apart.append("curve ").append(name).append(" 2 5 1 3 6 1;");
+        }
+        CurveMeetings none = Texts.of(apart + "line p 0 1 1; line q 1 0 -1;");
+        Checks.due("busiestLine() of eight curves without a root", 0, () -> none.busiestLine());
         Checks.says(54, "the number of curves that lie on it then, of 8");
         Checks.due("setLine(5, 1, 0, 0)", 1, () -> x.setLine(5, 1, 0, 0));
         Checks.says(47, "at most 8 curves and 6 lines");
