@@ -1,6 +1,6 @@
 import java.nio.file.Path;
 
-/** Runs all tests of the project; ends with exit code 1 if one fails. The program's text is the one argument. */
+/** Runs all tests of the project; ends with exit code 1 if one fails. The arguments are the paths of the program's text and of README.md. */
 public final class AllTests {
     private static final int PROMISES = 56;
 
@@ -19,9 +19,11 @@ public final class AllTests {
         MeetingBoundaries.run();
         ChangesTest.run();
         ChangeBoundaries.run();
+        DefinitionsTest.run();
         AloneTest.run();
         Checks.requireAllPromises(PROMISES);
         LanguageTest.run(Path.of(arguments[0]));
+        ReadmeTest.run(Path.of(arguments[1]));
         FuzzTest.run();
         System.out.println("the project's tests: " + Checks.passed() + " answers are as due, " + Checks.failed() + " are not");
         if (Checks.failed() > 0) {

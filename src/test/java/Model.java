@@ -400,24 +400,7 @@ public final class Model {
 
     /** A place by the sum of the binomials, not by halving. */
     private static Ratio placeAt(Curve curve, Ratio t, int what) {
-        return bernstein(homogeneous(curve, what), t).over(bernstein(homogeneous(curve, 2), t));
-    }
-
-    private static Ratio bernstein(List<Ratio> numbers, Ratio t) {
-        int n = numbers.size() - 1;
-        Ratio sum = Ratio.ZERO;
-        for (int k = 0; k <= n; k++) {
-            Ratio term = numbers.get(k).times(Ratio.of(binomial(n, k)));
-            for (int j = 0; j < n; j++) {
-                term = term.times(j < k ? t : Ratio.ONE.minus(t));
-            }
-            sum = sum.plus(term);
-        }
-        return sum;
-    }
-
-    private static long binomial(int n, int k) {
-        return k == 0 || k == n ? 1 : binomial(n - 1, k - 1) + binomial(n - 1, k);
+        return Polynomial.bernstein(homogeneous(curve, what), t).over(Polynomial.bernstein(homogeneous(curve, 2), t));
     }
 
     private Ratio place(int curve, int depth, int cell, int axis) {
@@ -712,7 +695,7 @@ public final class Model {
         int high = found.cell + 1 << depth - found.depth;
         while (high - low > 1) {
             int middle = (low + high) / 2;
-            Ratio value = bernstein(numbers, Ratio.of(middle).over(Ratio.of(1L << depth)));
+            Ratio value = Polynomial.bernstein(numbers, Ratio.of(middle).over(Ratio.of(1L << depth)));
             if (value.sign() == -before) {
                 high = middle;
             } else {
@@ -731,62 +714,14 @@ public final class Model {
         if (allZero(numbers)) {
             return false;
         }
-        List<Ratio> polynomial = powerForm(numbers);
-        List<Ratio> a = polynomial;
-        List<Ratio> b = derivative(polynomial);
-        while (!b.isEmpty()) {
-            List<Ratio> rest = remainder(a, b);
-            a = b;
-            b = rest;
-        }
+        List<Ratio> polynomial = Polynomial.powerForm(numbers);
+        List<Ratio> a = Polynomial.commonFactor(polynomial, Polynomial.derivative(polynomial));
         if (a.size() == 1) {
             return false;
         }
         // t - r, or its square if r is a root three times.
         Ratio root = Ratio.ZERO.minus(a.get(a.size() - 2)).over(a.get(a.size() - 1).times(Ratio.of(a.size() - 1)));
         return root.compareTo(Ratio.ZERO) >= 0 && root.compareTo(Ratio.ONE) <= 0;
-    }
-
-    private static List<Ratio> trimmed(List<Ratio> polynomial) {
-        List<Ratio> result = new ArrayList<>(polynomial);
-        while (!result.isEmpty() && result.get(result.size() - 1).isZero()) {
-            result.remove(result.size() - 1);
-        }
-        return result;
-    }
-
-    private static List<Ratio> powerForm(List<Ratio> numbers) {
-        int n = numbers.size() - 1;
-        Ratio[] sum = new Ratio[n + 1];
-        Arrays.fill(sum, Ratio.ZERO);
-        for (int k = 0; k <= n; k++) {
-            for (int j = 0; j <= n - k; j++) {
-                long factor = binomial(n, k) * binomial(n - k, j) * (j % 2 == 0 ? 1 : -1);
-                sum[k + j] = sum[k + j].plus(numbers.get(k).times(Ratio.of(factor)));
-            }
-        }
-        return trimmed(Arrays.asList(sum));
-    }
-
-    private static List<Ratio> derivative(List<Ratio> polynomial) {
-        List<Ratio> result = new ArrayList<>();
-        for (int k = 1; k < polynomial.size(); k++) {
-            result.add(polynomial.get(k).times(Ratio.of(k)));
-        }
-        return trimmed(result);
-    }
-
-    private static List<Ratio> remainder(List<Ratio> a, List<Ratio> b) {
-        List<Ratio> rest = new ArrayList<>(a);
-        while (rest.size() >= b.size()) {
-            Ratio factor = rest.get(rest.size() - 1).over(b.get(b.size() - 1));
-            int shift = rest.size() - b.size();
-            for (int k = 0; k < b.size(); k++) {
-                rest.set(shift + k, rest.get(shift + k).minus(factor.times(b.get(k))));
-            }
-            rest = trimmed(rest);
-        }
-        return rest;
     }
 
     private int sureRoots(int curve, int line) {
