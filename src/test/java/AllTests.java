@@ -23,6 +23,7 @@ public final class AllTests {
         AloneTest.run();
         Checks.requireAllPromises(PROMISES);
         LanguageTest.run(Path.of(arguments[0]));
+        CompiledTest.run();
         ReadmeTest.run(Path.of(arguments[1]));
         FuzzTest.run();
         System.out.println("the project's tests: " + Checks.passed() + " answers are as due, " + Checks.failed() + " are not");
